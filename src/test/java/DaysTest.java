@@ -147,6 +147,14 @@ public final class DaysTest {
         due.is("0 at least", x.bedOf(0, 8), 0);
         due.is("it stands no more", x.bedOf(0, 9), 0);
         due.is("all drunk", x.sum(1), 300);
+        RainStreets y = withBeds("clog 0;", false);
+        y.rain(23);
+        y.lot(0, 9);
+        y.storm();
+        y.lot(0, 11);
+        y.pass(1);
+        due.is("1 is left", y.bedOf(0, 8), 1);
+        due.is("1 left stands too", y.bedOf(0, 9), 1);
         due.is("balance", x.sum(0), x.sum(1) + x.sum(2) + x.sum(3));
     }
 
@@ -280,6 +288,7 @@ public final class DaysTest {
         due.is("every", x.turn(3, 0, 8), 1);
         due.is("ahead of from", x.turn(3, 0, 2), 0);
         due.is("far", x.turn(3, 0, 3647), 1);
+        due.is("neighbour 0", x.turn(0, 0, 5), 0);
         due.is("another corner", x.turn(3, 1, 5), 0);
         due.is("another neighbour", x.turn(2, 0, 5), 0);
         due.is("each day", x.turn(9, 1, 1), 1);
@@ -376,6 +385,7 @@ public final class DaysTest {
         due.is("0 at least", x.fee(3, 0), 0);
         due.is("owners above 9 are no neighbours", x.fee(10, 0), 7);
         due.is("owner 19", x.fee(19, 9), 0);
+        due.is("owner 0", x.fee(0, 0), 0);
         due.none("owner -1", x.fee(-1, 0));
         due.none("owner 20", x.fee(20, 0));
         due.none("year -1", x.fee(3, -1));
@@ -403,10 +413,22 @@ public final class DaysTest {
         due.is("by the rules of that year", x.fee(3, 0), 100);
         due.is("and of this", x.fee(3, 1), 140);
         due.is("and of those to come", x.fee(3, 9), 160);
-        Due.passed(x, 3649 - 366);
+        Due.passed(x, 3648 - 366);
+        Due.ruled(x, "turn 3 at 0 every 1 from 364; fee 8 credit 1 bed 10;");
         x.prove(0);
+        x.care(0, 3);
+        x.pass(1);
         due.is("the last year", x.roofOf(0, 5), 9);
-        due.is("its fee", x.fee(3, 9), 150);
-        due.is("turns kept ever", x.neighbour(3, 1), 2);
+        due.is("its fee", x.fee(3, 9), 140);
+        due.is("turns kept ever", x.neighbour(3, 1), 3);
+        RainStreets y = new RainStreets();
+        y.corner(1, 1, 0, 0);
+        y.roof(0, 0, 1, 0);
+        Due.passed(y, 364);
+        Due.ruled(y, "fee 6 credit 0 bed 0;");
+        y.pass(1);
+        Due.ruled(y, "fee 7 credit 0 bed 0;");
+        due.is("rules of its very last day", y.fee(0, 0), 6);
+        due.is("not of the day behind it", y.fee(0, 1), 7);
     }
 }

@@ -78,6 +78,11 @@ public final class LooksTest {
         x.look(6, 1);
         x.look(1, 3);
         due.row("the greatest mean, not the greatest sum", x::worst, 9, 5, 2);
+        RainStreets y = withLots(0, 0, 1, 1);
+        for (int i = 0; i < 4; i++) {
+            y.look(i, 1);
+        }
+        due.row("lot 0", y::worst, 0, 2, 2);
     }
 
     private static void complaints() {
@@ -145,7 +150,16 @@ public final class LooksTest {
         due.is("not open", x.complaint(0, 5), 0);
         due.is("the other is", x.complaint(1, 5), 1);
         due.is("one open", x.count(10), 1);
-        due.no("2", x.close(2));
+        x.complain(0, 0);
+        due.is("two open", x.count(10), 2);
+        x.close(1);
+        due.is("the last of them", x.complaint(2, 5), 1);
+        due.is("one open", x.count(10), 1);
+        due.no("3", x.close(3));
+        RainStreets y = new RainStreets();
+        y.corner(1, 1, 1, 1);
+        y.complain(0, 0);
+        due.is("the first one counts", y.count(10), 1);
     }
 
     private static void sums() {

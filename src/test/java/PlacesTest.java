@@ -137,6 +137,7 @@ public final class PlacesTest {
         due.yes("least bed", x.bed(0, 0, 1, false));
         x.pass(3);
         due.yes("greatest bed", x.bed(1, 9, 500, true));
+        due.row("least bed", w -> x.bedOf(0, w), 0, 1, 0, 0, 6);
         due.row("greatest bed", w -> x.bedOf(1, w), 9, 500, 1, 3, 0, 0, 0, 1, 0, 0, 20, -1, -1, -1, -1);
         due.no("one is there", x.bed(1, 0, 1, false));
         due.is("it stays", x.bedOf(1, 1), 500);
@@ -165,6 +166,7 @@ public final class PlacesTest {
         y.corner(1, 1, 1, 0);
         Due.ruled(y, "parking 0;");
         due.no("parking 0", y.bed(0, 0, 1, false));
+        due.is("a corner without a bed counts nothing", y.count(4), 0);
     }
 
     private static void care() {
@@ -197,6 +199,11 @@ public final class PlacesTest {
         due.yes("another bed on the same day", x.care(1, 9));
         x.pass(1);
         due.yes("another day", x.care(0, 9));
+        RainStreets y = new RainStreets();
+        y.corner(1, 1, 0, 0);
+        y.bed(0, 0, 1, false);
+        due.yes("on the first day", y.care(0, 0));
+        due.no("once on the first day", y.care(0, 0));
     }
 
     private static void treat() {
@@ -216,6 +223,8 @@ public final class PlacesTest {
         }
         x.pass(61);
         due.is("plants dead", x.bedOf(0, 7), 0);
+        due.no("what -1 without plants", x.treat(0, -1));
+        due.no("what 2 without plants", x.treat(0, 2));
         due.yes("planted anew", x.treat(0, 1));
         due.is("plants there", x.bedOf(0, 7), 1);
         due.no("planted twice", x.treat(0, 1));
@@ -241,6 +250,13 @@ public final class PlacesTest {
         x.rain(4);
         x.storm();
         due.row("the latest storm alone", w -> x.told(0, w), 10, 30, 7, 40, 1, 0, 5, 30, 0);
+        x.clear();
+        x.rain(2);
+        x.storm();
+        due.row("a lesser one", w -> x.told(0, w), 10, 30, 7, 40, 1, 0, 0, 20, 0);
+        x.clear();
+        x.storm();
+        due.row("one of no minutes", w -> x.told(0, w), 10, 30, 7, 40, 1, 0, 0, 0, 0);
         x.corner(1, 1, 1, 1);
         due.row("a corner newer than the storm", w -> x.told(2, w), 1, 1, 1, 1, -1, 0, 0, 0, 0);
     }

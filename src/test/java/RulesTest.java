@@ -142,6 +142,12 @@ public final class RulesTest {
         due.is("a high byte", faultOf("clog 5;\u00e4"), 7);
         due.is("a high byte with a blank's low bits", faultOf("clog 5;\u00a0"), 7);
         due.is("words as long as they go", faultOf("clogs 5;"), 0);
+        due.is("from a to z", faultOf("clogz 5;"), 0);
+        due.is("from a to z", faultOf("clog a5;"), 5);
+        due.is("next to a", faultOf("clog` 5;"), 4);
+        due.is("next to z", faultOf("clog{ 5;"), 4);
+        due.is("next to 0", faultOf("clog 5/;"), 6);
+        due.is("next to 9", faultOf("clog 5:;"), 6);
         due.is("words apart", faultOf("cl og 5;"), 0);
         due.is("numbers apart", faultOf("clog 1 2;"), 7);
         due.is("two signs", faultOf("clog 5;;"), 7);

@@ -182,9 +182,9 @@ public final class StormsTest {
         due.is("with the bed that is there", x.tried(0, 0), 280);
         due.is("with another", x.tried(2, 0), 180);
         x.lot(0, 1);
+        x.lot(1, 99);
+        newDrinks();
         x.rain(1);
-        // The new bed's bowl keeps 99 of the first minute and has room for 1 of 20 in the next.
-        due.is("a new bed drinks what lot 0 drinks", x.tried(2, 0), 180);
         x.storm();
         long[] sums = new long[7];
         for (int i = 0; i < 7; i++) {
@@ -201,6 +201,19 @@ public final class StormsTest {
         x.storm();
         due.is("as the storm came", x.stormOf(1, 2), ahead);
         due.is("barrels as they are now", x.tried(0, 0) > ahead, true);
+    }
+
+    private static void newDrinks() {
+        RainStreets x = new RainStreets();
+        x.corner(10, 10, 0, 0);
+        x.lot(0, 7);
+        x.lot(1, 70);
+        x.rain(10);
+        x.rain(3);
+        // 100 go in, 7 are drunk; of 30 just 7 have room, 23 go to a pipe of 10.
+        due.is("a new bed drinks what lot 0 drinks", x.tried(1, 0), 13);
+        x.lot(0, 100);
+        due.is("more", x.tried(1, 0), 0);
     }
 
     private static void best() {
@@ -302,6 +315,10 @@ public final class StormsTest {
         due.is("1 for itself", x.helps(1, 1), 50);
         due.is("2 for itself", x.helps(2, 2), 100);
         due.is("1 for the one above", x.helps(1, 0), 0);
+        RainStreets y = new RainStreets();
+        y.corner(10, 30, 0, 0);
+        y.rain(12);
+        due.is("corner 0 for itself", y.helps(0, 0), 90);
         due.none("no corner", x.helps(3, 0));
         due.none("no corner -1", x.helps(-1, 0));
         due.none("for no corner", x.helps(0, 3));
@@ -364,6 +381,16 @@ public final class StormsTest {
         due.is("more than 9", x.compare(2, 3), 1);
         Due.ruled(x, "doubt 0;");
         due.is("the same rain alone", x.compare(2, 0), 1);
+        RainStreets v = new RainStreets();
+        v.corner(100, 10, 0, 0);
+        rained(v, 20);
+        v.bed(0, 0, 180, false);
+        v.lot(0, 100);
+        rained(v, 20);
+        // 1990 and 1810 spilt: less by 180, which is more than 9 hundredths of 1990, and less than 10.
+        due.is("less than 10", v.compare(1, 3), 0);
+        Due.ruled(v, "doubt 9;");
+        due.row("finely more than 9", w -> v.compare(1, w), 1, 1990, 1810, 1);
         RainStreets y = new RainStreets();
         y.corner(10, 100, 0, 0);
         rained(y, 20, 2);   // 220, 100 spilt
