@@ -1,16 +1,38 @@
+import java.io.IOException;
+import java.io.UncheckedIOException;
 import java.nio.charset.StandardCharsets;
+import java.nio.file.Files;
+import java.nio.file.Path;
 
 /** What a test expects: it prints what is not as due, and ends the test with exit code 1 if there was such. */
 final class Due {
     private int right;
     private int wrong;
+    private String document = "";
+    private String sentence = "";
+
+    /** Names the sentence of the document that the next answers hold to; it must stand there. */
+    void says(String words) {
+        sentence = "\"" + words + "\": ";
+        document = document.isEmpty() ? document() : document;
+        yes("the document says so", document.contains(words));
+    }
+
+    /** The document with one blank for each run of blanks and ends of lines. */
+    static String document() {
+        try {
+            return Files.readString(Path.of("../shared/DOC.md")).replaceAll("\\s+", " ");
+        } catch (IOException e) {
+            throw new UncheckedIOException(e);
+        }
+    }
 
     void is(String call, long got, long want) {
         if (got == want) {
             right++;
         } else {
             wrong++;
-            System.out.println(call + " answered " + got + ", due is " + want);
+            System.out.println(sentence + call + " answered " + got + ", due is " + want);
         }
     }
 
