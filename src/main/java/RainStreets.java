@@ -423,7 +423,7 @@ public final class RainStreets {
         }
         prepareFlow();
         flow.run(0);
-        for (int c = 0; c < corners.size(); c++) {
+        for (int c = 0; c < corners.size() && c < flow.nodes.size(); c++) {
             sums[DRUNK] += corners.get(c).takeOver(flow.nodes.get(c));
         }
         for (int r = 0; r < roofs.size(); r++) {
